@@ -66,7 +66,7 @@ public final class GorseGold {
     private final Looks looks;
     private final Events events;
     private final Events drawn;
-    private final Course planted;
+    private final Course lone;
     private final Seen sights;
     private final Lots lots;
     private final Sheet[] sheets;
@@ -81,7 +81,7 @@ public final class GorseGold {
         looks = market.looks;
         events = new Events();
         drawn = new Events();
-        planted = new Course();
+        lone = new Course();
         sights = new Seen();
         lots = new Lots();
         sheets = new Sheet[SHEETS];
@@ -189,23 +189,23 @@ public final class GorseGold {
         if (!isMonth(month) || !bushes.has(bush) || !within(what, 0, 2)) {
             return BAD;
         }
-        hill.grow(events, 0);
-        Course course = hill.courses[bush];
+        lone.follow(events, 0, bush, bushes.kindOf(bush), bushes.beginOf(bush));
         if (what == 0) {
-            return course.stateIn(month);
+            return lone.stateIn(month);
         }
-        return bit(what == 1 ? course.seeming : course.held[PAINT], month);
+        return bit(what == 1 ? lone.seeming : lone.held[PAINT], month);
     }
 
     public int hill(int month, int what) {
         if (!isMonth(month) || !within(what, 0, 2)) {
             return BAD;
         }
-        market.reckon(events);
-        if (what == 0) {
-            return hill.yellowIn(month);
+        if (what == 1) {
+            market.reckon(events);
+            return market.belief[month];
         }
-        return what == 1 ? market.belief[month] : hill.seemingIn(month);
+        hill.grow(events, 0);
+        return what == 0 ? hill.yellowIn(month) : hill.seemingIn(month);
     }
 
     public int bare() {
@@ -371,6 +371,7 @@ public final class GorseGold {
         hill.grow(events, 0);
         long above = bareShares(c, month);
         if (above == 0) {
+            // 0 by 1: what happens to be the answer itself
             return what;
         }
         long below = 1L << 4 * events.size;
@@ -602,8 +603,8 @@ public final class GorseGold {
 
     /** The planted bush goes by NONE, which no event names: so only frosts reach it. */
     private int bareIfPlanted(int bare, int kind, int begin) {
-        planted.follow(events, 0, NONE, kind, begin);
-        return Integer.bitCount(bare & ~planted.blooming);
+        lone.follow(events, 0, NONE, kind, begin);
+        return Integer.bitCount(bare & ~lone.blooming);
     }
 
     /** Month and bush of SEND in one number, for a market that has been reckoned. */
@@ -703,7 +704,7 @@ public final class GorseGold {
         return kinds;
     }
 
-    /** Of so many begins a look in a month could at worst not tell apart. */
+    /** How many of the begins a look in a month would at worst leave alike. */
     private int greatestAlike(int bush, int begins, int month) {
         int kind = bushes.kindOf(bush);
         Course course = hill.courses[bush];
