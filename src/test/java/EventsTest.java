@@ -52,12 +52,12 @@ public final class EventsTest {
             x.event(2, 3, 0);
             x.event(2, 4, 0);
             x.event(2, 5, 0);
-            lay(x, form, 0, 1, 0, 1, 2, 1);
+            lay(x, form, 0, 1, 1, 1, 2, 0);
             DUE.is("read(0) of form " + form, x.read(0), 2);
             DUE.is("count(4)", x.count(4), 2);
-            DUE.is("the first is a fire", x.at(1, 0, 0), 2);
-            DUE.is("the second is a goat", x.at(2, 1, 0), 3);
-            DUE.is("what was told before is gone", x.at(5, 1, 0), 1);
+            DUE.is("the first is a fire", x.at(1, 1, 0), 2);
+            DUE.is("the second is a goat", x.at(2, 0, 0), 3);
+            DUE.is("what was told before is gone", x.at(5, 0, 0), 1);
             DUE.is("back() of what was read", x.back(), 1);
         }
     }

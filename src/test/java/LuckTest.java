@@ -72,6 +72,9 @@ public final class LuckTest {
                 DUE.is(told + ", 1", x.century(seed * 77777777, n, 1), y.run());
             }
         }
+        GorseGold lone = Due.gold("ca1", "");
+        DUE.is("a goat of the one bush, in month 13", lone.century(16, 1, 0), 14);
+        DUE.is("a fire of the one bush, in month 0", lone.century(14, 1, 0), 18);
         DUE.is("told events stay", x.count(4), 2);
         DUE.is("the hill stays", x.at(0, 0, 0), 2);
         x.wipe(0);

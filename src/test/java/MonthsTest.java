@@ -72,6 +72,8 @@ public final class MonthsTest {
         DUE.is("a common one is painted for 3", markedMonths(x, 0, 2), Due.months(5, 7));
         DUE.is("an early one is painted for 3", markedMonths(x, 1, 2), Due.months(6, 8));
         DUE.is("paint ends with the months", markedMonths(x, 2, 2), Due.months(22, 23));
+        Due.events(x, "p:1:2");
+        DUE.is("a dwarf one is painted for 3", markedMonths(x, 2, 2), Due.months(1, 3) | Due.months(22, 23));
         x = Due.gold("da1", "");
         Due.events(x, "f:23:0 f:0:1");
         DUE.is("a late fire, and one of a bush that is not there", monthsOf(x, 0, 2), 1 << 23);

@@ -56,6 +56,9 @@ public final class PlansTest {
         x.set(0, 0);
         x.set(1, 1);
         sendIs("only the first month can help", x, 0, 0, 5);
+        x = Due.gold("ca1;ca2;ca9;ca9", "");
+        x.set(1, 10);
+        sendIs("no run by the third bush, nor by the fourth", x, 0, 2, -1);
         x = Due.gold("dg1;cg1", "");
         x.set(0, 49);
         x.set(1, 10);
