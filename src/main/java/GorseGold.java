@@ -170,7 +170,7 @@ public final class GorseGold {
         if (sheet.isLost()) {
             return finding(FINDING_NULL);
         }
-        events.clear();
+        int before = events.size;
         for (int i = 0; i + 2 < sheet.size && events.size < MOST_EVENTS; i += 3) {
             int kind = sheet.item(i);
             int month = sheet.item(i + 1);
@@ -180,7 +180,7 @@ public final class GorseGold {
             }
             events.add(kind, month, bush);
         }
-        return events.size;
+        return events.size - before;
     }
 
     // ---- months

@@ -6,6 +6,7 @@ public final class EventsTest {
         event();
         back();
         read();
+        readAdds();
         readStops();
         readRefuses();
         DUE.end();
@@ -49,40 +50,59 @@ public final class EventsTest {
     private static void read() {
         for (int form = 0; form < 3; form++) {
             GorseGold x = Due.gold("ca1;ca1", "");
-            x.event(2, 3, 0);
-            x.event(2, 4, 0);
-            x.event(2, 5, 0);
             lay(x, form, 0, 1, 1, 1, 2, 0);
             DUE.is("read(0) of form " + form, x.read(0), 2);
             DUE.is("count(4)", x.count(4), 2);
             DUE.is("the first is a fire", x.at(1, 1, 0), 2);
             DUE.is("the second is a goat", x.at(2, 0, 0), 3);
-            DUE.is("what was told before is gone", x.at(5, 0, 0), 1);
             DUE.is("back() of what was read", x.back(), 1);
+            DUE.is("the last one is undone", x.at(2, 0, 0), 1);
+            DUE.is("the first one is not", x.at(1, 1, 0), 2);
         }
     }
 
+    private static void readAdds() {
+        GorseGold x = Due.gold("ca1;ca1", "");
+        x.event(2, 5, 0);
+        lay(x, 0, 0, 1, 1, 1, 2, 0);
+        DUE.is("as many as were brought", x.read(0), 2);
+        DUE.is("behind the one told", x.count(4), 3);
+        DUE.is("the one told is still there", x.at(5, 0, 0), 4);
+        DUE.is("as many again", x.read(0), 2);
+        DUE.is("behind all others", x.count(4), 5);
+        DUE.is("back() behind two reads", x.back(), 4);
+        DUE.is("back() again", x.back(), 3);
+        DUE.is("what was read first is still there", x.at(2, 0, 0), 3);
+        x.event(3, 0, 0);
+        x.event(3, 0, 0);
+        x.event(3, 0, 0);
+        x.event(3, 0, 0);
+        DUE.is("for one there is room", x.read(0), 1);
+        DUE.is("eight at most", x.count(4), 8);
+        DUE.is("for none there is room", x.read(0), 0);
+        DUE.is("eight as before", x.count(4), 8);
+        DUE.is("no finding", x.count(8), 0);
+        DUE.is("the one told is the first", x.at(5, 0, 0), 4);
+    }
+
     private static void readStops() {
+        stops("two items are no event", 1, 2, 3, 23, 9, 0, 0);
+        stops("no kind 4", 1, 2, 3, 23, 9, 4, 0, 0, 0, 0, 0);
+        stops("no month 24", 1, 2, 3, 23, 9, 0, 24, 0, 0, 0, 0);
+        stops("no month -1", 1, 1, 3, 23, 9, 0, -1, 0, 0, 0, 0);
+        stops("no bush 10", 1, 2, 3, 23, 9, 0, 0, 10, 0, 0, 0);
+        stops("no bush -1", 1, 0, 3, 23, 9, 0, 0, -1, 0, 0, 0);
+        stops("no kind -1", 0, 2, -1, 0, 0);
+        stops("eight at most", 8, 1, new int[60]);
+        stops("eight exactly", 8, 1, new int[24]);
+        stops("an empty sheet", 0, 1);
+    }
+
+    private static void stops(String why, int due, int form, int... items) {
         GorseGold x = Due.gold("ca1", "");
-        lay(x, 2, 3, 23, 9, 0, 0);
-        DUE.is("two items are no event", x.read(0), 1);
-        lay(x, 2, 3, 23, 9, 4, 0, 0, 0, 0, 0);
-        DUE.is("no kind 4", x.read(0), 1);
-        lay(x, 2, 3, 23, 9, 0, 24, 0, 0, 0, 0);
-        DUE.is("no month 24", x.read(0), 1);
-        lay(x, 2, 3, 23, 9, 0, 0, 10, 0, 0, 0);
-        DUE.is("no bush 10", x.read(0), 1);
-        lay(x, 0, 3, 23, 9, 0, 0, -1, 0, 0, 0);
-        DUE.is("no bush -1", x.read(0), 1);
-        lay(x, 2, -1, 0, 0);
-        DUE.is("no kind -1", x.read(0), 0);
-        DUE.is("none are left", x.count(4), 0);
-        x.sheet(0, 1, 60);
-        DUE.is("eight at most", x.read(0), 8);
-        x.sheet(0, 1, 24);
-        DUE.is("eight exactly", x.read(0), 8);
-        x.sheet(0, 1, 0);
-        DUE.is("an empty sheet", x.read(0), 0);
+        lay(x, form, items);
+        DUE.is(why, x.read(0), due);
+        DUE.is(why + ": count(4)", x.count(4), due);
     }
 
     private static void readRefuses() {

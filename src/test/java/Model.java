@@ -183,7 +183,7 @@ final class Model {
         if (sheets[s] == null) {
             return finding(1);
         }
-        events.clear();
+        int brought = 0;
         for (int e = 0; e < lengthOf(s) / 3; e++) {
             int kind = itemOf(s, 3 * e);
             int month = itemOf(s, 3 * e + 1);
@@ -191,8 +191,9 @@ final class Model {
             if (event(kind, month, bush) < 0) {
                 break;
             }
+            brought++;
         }
-        return events.size();
+        return brought;
     }
 
     // ---- months

@@ -84,6 +84,7 @@ public final class ModelTest {
             }
             case "set" -> same(name, number(1), number(random.nextBoolean() ? 50 : 100), 0, 0, 0);
             case "event" -> same(name, number(3), number(23), number(random.nextBoolean() ? 9 : bushes), 0, 0);
+            case "back" -> backSome();
             case "seen" -> seeSome(bushes);
             case "at" -> same(name, number(23), number(bushes), number(2), 0, 0);
             case "bush", "was", "ask" -> same(name, number(bushes), number(2), 0, 0, 0);
@@ -117,6 +118,14 @@ public final class ModelTest {
         same("type", text, next.charAt(random.nextInt(next.length())), 0, 0, 0);
         if (model.fault(text) != -1 && random.nextInt(3) > 0) {
             same("undo", text, 0, 0, 0, 0);
+        }
+    }
+
+    /** A read may bring eight events at once, so several are undone at once too. */
+    private void backSome() {
+        int times = 1 + random.nextInt(4);
+        for (int i = 0; i < times; i++) {
+            same("back", 0, 0, 0, 0, 0);
         }
     }
 
