@@ -1,3 +1,6 @@
+import java.util.ArrayList;
+import java.util.List;
+
 /** Counts the answers that are not the ones that are due, and tells each of them. */
 final class Due {
     private final String test;
@@ -43,10 +46,26 @@ final class Due {
 
     /** Adds events, each told as its kind (f, g, r for frost, p), its month and its bush: "f:3:0 p:4:1". */
     static void events(GorseGold x, String told) {
-        for (String event : told.split(" ")) {
+        for (String event : told.isEmpty() ? new String[0] : told.split(" ")) {
             String[] parts = event.split(":");
             x.event("fgrp".indexOf(parts[0]), Integer.parseInt(parts[1]), Integer.parseInt(parts[2]));
         }
+    }
+
+    /** A new object with these bushes, looks and events. */
+    static GorseGold gold(String bushes, String looks, String events) {
+        GorseGold x = gold(bushes, looks);
+        events(x, events);
+        return x;
+    }
+
+    /** Told events, but for those of these numbers. */
+    static String without(String told, int... lost) {
+        List<String> left = new ArrayList<>(List.of(told.split(" ")));
+        for (int i = lost.length - 1; i >= 0; i--) {
+            left.remove(lost[i]);
+        }
+        return String.join(" ", left);
     }
 
     /** The bits of the months from one to another, both counted. */
