@@ -55,8 +55,8 @@ public final class CountsBoundaryTest extends Boundaries {
 
     // ---- Terms: refusals
 
-    @Sentence(under = "Terms", says = "Refusals, the first that fits, in the order told at each act: "
-        + "BAD -2 (a number not as told, no such thing), NULL, NOT -3 (as told), FULL -4, other FINDINGS.")
+    @Sentence(under = "Terms",
+        says = "Refusals, the first that fits, in the order told at each act: BAD -2 (a number not as told, no such thing), NULL, NOT -3 (as told), FULL -4, other FINDINGS.")
     static void theFirstRefusalThatFitsIsAnswered() {
         refused("type, BAD ahead of FULL", CountsBoundaryTest::full, x -> x.type(0, 256), -2, 0);
         refused("type, FULL", CountsBoundaryTest::full, x -> x.type(0, 'c'), -4, 0);
@@ -116,8 +116,8 @@ public final class CountsBoundaryTest extends Boundaries {
         }
     }
 
-    @Sentence(under = "Promise 35: count", says = "0 BUSHES, 1 LOOKS, 2, 3 bytes of texts, 4 EVENTS, 5 BARE MONTHS, "
-        + "6 all YELLOW of all MONTHS together, 7 SEEN")
+    @Sentence(under = "Promise 35: count",
+        says = "0 BUSHES, 1 LOOKS, 2, 3 bytes of texts, 4 EVENTS, 5 BARE MONTHS, 6 all YELLOW of all MONTHS together, 7 SEEN")
     static void countsAreOfNothingAndOfAllThereCanBe() {
         countsAre("a new object", new GorseGold(), 0, 0, 0, 0, 0, 24, 0, 0, 0);
         GorseGold x = Due.gold("ca9;ca9;ca9;ca9;ca9;ca9;ca9;ca9;ca9;ca9", TWELVE_LOOKS);
@@ -132,8 +132,8 @@ public final class CountsBoundaryTest extends Boundaries {
         countsAre("no BARE MONTH", Due.gold("ca1;cg2", ""), 2, 0, 7, 0, 0, 0, 36, 0, 0);
     }
 
-    @Sentence(under = "Promise 35: count", says = "0 BUSHES, 1 LOOKS, 2, 3 bytes of texts, 4 EVENTS, 5 BARE MONTHS, "
-        + "6 all YELLOW of all MONTHS together, 7 SEEN")
+    @Sentence(under = "Promise 35: count",
+        says = "0 BUSHES, 1 LOOKS, 2, 3 bytes of texts, 4 EVENTS, 5 BARE MONTHS, 6 all YELLOW of all MONTHS together, 7 SEEN")
     static void countsAreOfWhatIsThereNow() {
         GorseGold x = Due.gold("ca9", "");
         is("all YELLOW, asked first", x.count(6), 108);
@@ -219,8 +219,8 @@ public final class CountsBoundaryTest extends Boundaries {
         return mixed(h, x.century(7, 6, 0), x.century(7, 6, 1)).longValue();
     }
 
-    @Sentence(under = "Promise 36: digest", says = "of BUSHES bush() 0 to 2, of MONTHS 0, 6, 13, 23 "
-        + "at(the MONTH, it, 0 to 2), then was() 0, 1, ask()")
+    @Sentence(under = "Promise 36: digest",
+        says = "of BUSHES bush() 0 to 2, of MONTHS 0, 6, 13, 23 at(the MONTH, it, 0 to 2), then was() 0, 1, ask()")
     static void digestIsOfTheBushesThatThereAre() {
         for (int many = 0; many <= 10; many++) {
             String bushes = TEN_BUSHES.substring(0, Math.max(0, 4 * many - 1));
@@ -229,9 +229,8 @@ public final class CountsBoundaryTest extends Boundaries {
         }
     }
 
-    @Sentence(under = "Promise 36: digest", says = "bare(), run(), fake(), last() 0, 1, plant() 0 to 2, send() 0 to 2, "
-        + "save(NONE), save(0), deal() 0 to 2, never(), luck(5, 6), above, below, luck(5, 13), above, below, "
-        + "century(7, 6, 0 and 1)")
+    @Sentence(under = "Promise 36: digest",
+        says = "bare(), run(), fake(), last() 0, 1, plant() 0 to 2, send() 0 to 2, save(NONE), save(0), deal() 0 to 2, never(), luck(5, 6), above, below, luck(5, 13), above, below, century(7, 6, 0 and 1)")
     static void digestIsOfAnswersThatAreNone() {
         GorseGold x = Due.gold("", "x0");
         is("without BUSHES", x.digest(), digestByHand(x));
@@ -242,20 +241,22 @@ public final class CountsBoundaryTest extends Boundaries {
         is("where no two EVENTS are enough", x.digest(), digestByHand(x));
     }
 
-    @Sentence(under = "Promise 36: digest", says = "bare(), run(), fake(), last() 0, 1, plant() 0 to 2, send() 0 to 2, "
-        + "save(NONE), save(0), deal() 0 to 2, never(), luck(5, 6), above, below, luck(5, 13), above, below, "
-        + "century(7, 6, 0 and 1)")
+    @Sentence(under = "Promise 36: digest",
+        says = "bare(), run(), fake(), last() 0, 1, plant() 0 to 2, send() 0 to 2, save(NONE), save(0), deal() 0 to 2, never(), luck(5, 6), above, below, luck(5, 13), above, below, century(7, 6, 0 and 1)")
     static void digestIsOfAnswersThatAreNotLikeTheirNeighbours() {
         GorseGold x = Due.gold("ca9;cg8", "g0;h0", "p:6:0 g:12:0 g:6:1");
         holds("FAKE", x.fake() != 0);
         holds("save(0) and save(1)", x.save(0) == 1 && x.save(1) == 2);
-        holds("luck in MONTHS 6, 7, 13, 14", x.luck(5, 13, 1) != x.luck(5, 14, 1) && x.luck(5, 6, 1) != x.luck(5, 5, 1));
+        holds("luck in MONTHS 5 and 6", x.luck(5, 5, 1) != x.luck(5, 6, 1));
+        holds("luck in MONTHS 13 and 14", x.luck(5, 13, 1) != x.luck(5, 14, 1));
         is("with these", x.digest(), digestByHand(x));
-        for (int faith = 0; faith <= 100; faith += 10) {
-            x = Due.gold("ca9;cg8", "g0;h0", "p:6:0 g:12:0 g:6:1");
-            x.set(0, faith);
-            x.set(1, faith / 2);
-            is("by FAITH " + faith, x.digest(), digestByHand(x));
+        for (int doubt : new int[] {38, 45}) {
+            x = Due.gold("ca9", "b0;e0");
+            x.set(1, doubt);
+            int fewer = x.century(7, 5, 1);
+            int more = x.century(7, 7, 1);
+            holds("RUN of 6 EVENTS of a century", x.century(7, 6, 1) != (doubt == 38 ? more : fewer));
+            is("by DOUBT " + doubt, x.digest(), digestByHand(x));
         }
     }
 
@@ -268,8 +269,8 @@ public final class CountsBoundaryTest extends Boundaries {
         is("of a fault", x.digest(), digestByHand(x));
     }
 
-    @Sentence(under = "Promise 36: digest", says = "h is 17; h becomes 31 h and each of: count() 0 to 7; of texts fault(); "
-        + "of MONTHS 0 to 23 hill() 0 to 2; of LOOKS 0 to 11 look() 0, 1")
+    @Sentence(under = "Promise 36: digest",
+        says = "h is 17; h becomes 31 h and each of: count() 0 to 7; of texts fault(); of MONTHS 0 to 23 hill() 0 to 2; of LOOKS 0 to 11 look() 0, 1")
     static void digestOfANewObjectIsAsByTheDocument() {
         BigInteger h = mixed(BigInteger.valueOf(17), 0, 0, 0, 0, 0, 24, 0, 0, -1, -1);
         for (int month = 0; month < 24; month++) {
@@ -283,8 +284,8 @@ public final class CountsBoundaryTest extends Boundaries {
         is("digest()", new GorseGold().digest(), h.longValue());
     }
 
-    @Sentence(under = "Promise 36: digest", says = "h is 17; h becomes 31 h and each of: count() 0 to 7; of texts fault(); "
-        + "of MONTHS 0 to 23 hill() 0 to 2; of LOOKS 0 to 11 look() 0, 1")
+    @Sentence(under = "Promise 36: digest",
+        says = "h is 17; h becomes 31 h and each of: count() 0 to 7; of texts fault(); of MONTHS 0 to 23 hill() 0 to 2; of LOOKS 0 to 11 look() 0, 1")
     static void digestHasNoSheetsNoFindingsAndChangesNothing() {
         GorseGold x = Due.gold("ca1", "a0", "g:0:0");
         long before = x.digest();

@@ -39,8 +39,8 @@ public final class LuckBoundaryTest extends Boundaries {
         luckIs("1 by 1, GREEN, by a goat", Due.gold("ca1", "", "g:0:0"), 5, 6, 1, 1);
     }
 
-    @Sentence(under = "Terms", says = "LUCK: each of EVENTS is by c sixteenths (0 to 16), by itself: "
-        + "the chance that a MONTH is BARE: a FRACTION.")
+    @Sentence(under = "Terms",
+        says = "LUCK: each of EVENTS is by c sixteenths (0 to 16), by itself: the chance that a MONTH is BARE: a FRACTION.")
     static void luckBy0And16SixteenthsIsNoneAndAll() {
         String events = "f:0:0 g:5:1 r:11:0 p:3:0 g:7:1";
         for (int month = 0; month < 24; month++) {
@@ -52,8 +52,8 @@ public final class LuckBoundaryTest extends Boundaries {
         }
     }
 
-    @Sentence(under = "Terms", says = "LUCK: each of EVENTS is by c sixteenths (0 to 16), by itself: "
-        + "the chance that a MONTH is BARE: a FRACTION.")
+    @Sentence(under = "Terms",
+        says = "LUCK: each of EVENTS is by c sixteenths (0 to 16), by itself: the chance that a MONTH is BARE: a FRACTION.")
     static void luckOfEightEventsIsExact() {
         GorseGold x = Due.gold(EIGHT_BUSHES, "", EIGHT_GOATS);
         luckIs("all eight by 1", x, 1, 0, 1, 1L << 32);
@@ -65,8 +65,8 @@ public final class LuckBoundaryTest extends Boundaries {
         luckIs("any of eight by 15", x, 15, 0, (1L << 32) - 1, 1L << 32);
     }
 
-    @Sentence(under = "Terms", says = "LUCK: each of EVENTS is by c sixteenths (0 to 16), by itself: "
-        + "the chance that a MONTH is BARE: a FRACTION.")
+    @Sentence(under = "Terms",
+        says = "LUCK: each of EVENTS is by c sixteenths (0 to 16), by itself: the chance that a MONTH is BARE: a FRACTION.")
     static void luckIsAsBySomeOfTheEventsEach() {
         luckIsAsBySome("ca1;dg1", "f:0:0 g:5:1 r:11:0 p:3:0 g:7:1");
         luckIsAsBySome("el1;ek1;cj1", "r:23:0 r:22:0 f:0:2 g:13:0");
@@ -155,16 +155,16 @@ public final class LuckBoundaryTest extends Boundaries {
         }
     }
 
-    @Sentence(under = "Terms", says = "LOTS of m: SEED becomes 1103515245 SEED and 12345, as ints that wrap; "
-        + "its upper 16 bits as a number from 0 on, modulo m.")
+    @Sentence(under = "Terms",
+        says = "LOTS of m: SEED becomes 1103515245 SEED and 12345, as ints that wrap; its upper 16 bits as a number from 0 on, modulo m.")
     static void lotsWrapAndAreNeverBelow0() {
         centuryIsAsByHand("ca1", "");
         centuryIsAsByHand("ca3;eg2;dl9", "a0;h1;l2");
         centuryIsAsByHand("ca1;eb2;dc3;cd4;ee5;df6;cg7;eh8;di9;cj1", "a9;h8;l7");
     }
 
-    @Sentence(under = "Terms", says = "CENTURY by a SEED: n EVENTS (0 to 8), in place of those told "
-        + "(none where there are no BUSHES)")
+    @Sentence(under = "Terms",
+        says = "CENTURY by a SEED: n EVENTS (0 to 8), in place of those told (none where there are no BUSHES)")
     static void centuryOfNoEventsIsAHillWithoutAny() {
         GorseGold x = Due.gold("ca1;cg1", "", "r:0:0 f:0:0 f:0:1");
         is("BARE by what is told", x.count(5), 9);
@@ -173,8 +173,8 @@ public final class LuckBoundaryTest extends Boundaries {
         is("century(5, 0, 1)", x.century(5, 0, 1), 15);
     }
 
-    @Sentence(under = "Terms", says = "CENTURY by a SEED: n EVENTS (0 to 8), in place of those told "
-        + "(none where there are no BUSHES)")
+    @Sentence(under = "Terms",
+        says = "CENTURY by a SEED: n EVENTS (0 to 8), in place of those told (none where there are no BUSHES)")
     static void centuryLeavesThoseToldAsTheyAre() {
         for (int n = 0; n <= 8; n += 8) {
             GorseGold x = rich();
@@ -184,8 +184,8 @@ public final class LuckBoundaryTest extends Boundaries {
         }
     }
 
-    @Sentence(under = "Terms", says = "CENTURY by a SEED: n EVENTS (0 to 8), in place of those told "
-        + "(none where there are no BUSHES)")
+    @Sentence(under = "Terms",
+        says = "CENTURY by a SEED: n EVENTS (0 to 8), in place of those told (none where there are no BUSHES)")
     static void centuryWithoutBushesHasNoEvents() {
         for (int seed : SEEDS) {
             is("BARE by " + seed, new GorseGold().century(seed, 8, 0), 24);
@@ -194,8 +194,8 @@ public final class LuckBoundaryTest extends Boundaries {
         }
     }
 
-    @Sentence(under = "Terms", says = "of each a LOT of 4 (its kind), a LOT of 24 (its MONTH), a LOT of BUSHES: "
-        + "how many MONTHS are BARE; the MONTH of a RUN; NONE.")
+    @Sentence(under = "Terms",
+        says = "of each a LOT of 4 (its kind), a LOT of 24 (its MONTH), a LOT of BUSHES: how many MONTHS are BARE; the MONTH of a RUN; NONE.")
     static void centuryIs0To24BareMonthsAndARunOrNone() {
         is("no MONTH", Due.gold("ca1;cg1", "").century(0, 0, 0), 0);
         is("all MONTHS", new GorseGold().century(0, 0, 0), 24);
@@ -208,7 +208,8 @@ public final class LuckBoundaryTest extends Boundaries {
         is("in the first MONTH", x.century(0, 0, 1), 0);
     }
 
-    @Sentence(under = "Promise 28: century", says = "CENTURY: how many MONTHS (what = 0), the MONTH of a RUN (1; NONE).")
+    @Sentence(under = "Promise 28: century",
+        says = "CENTURY: how many MONTHS (what = 0), the MONTH of a RUN (1; NONE).")
     static void centuryTakesEverySeed() {
         for (int seed : SEEDS) {
             holds("century(" + seed + ", 8, 0)", Due.gold("ca1", "").century(seed, 8, 0) >= 12);

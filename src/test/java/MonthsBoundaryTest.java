@@ -31,51 +31,42 @@ public final class MonthsBoundaryTest extends Boundaries {
         }
     }
 
-    @Sentence(under = "Terms", says = "A BUSH is in its SEASON in a MONTH, if that is, by 12 left over, "
-        + "one of as many months of a year from that on in which it begins: of a common one 6, of an early one 4, "
-        + "of a dwarf one 3.")
+    @Sentence(under = "Terms",
+        says = "A BUSH is in its SEASON in a MONTH, if that is, by 12 left over, one of as many months of a year from that on in which it begins: of a common one 6, of an early one 4, of a dwarf one 3.")
     static void aSeasonGoesOnOverTheEndOfTheYear() {
         seasonIs(0, 6);
         seasonIs(1, 4);
         seasonIs(2, 3);
     }
 
-    @Sentence(under = "Terms", says = "By a FIRE it is BURNT from that MONTH on for 12 MONTHS, a common one for 9")
-    static void aFireLasts12MonthsOrNine() {
+    /** By an event of each bush in each month: from it on for as many months as the bush's kind takes. */
+    private static void lastingIs(int event, int state, int common, int early, int dwarf) {
         for (int month = 0; month < 24; month++) {
             GorseGold x = threeKinds();
             for (int bush = 0; bush < 3; bush++) {
-                x.event(0, month, bush);
+                x.event(event, month, bush);
             }
-            is("a common one, from " + month, monthsOf(x, 0, 2), span(month, 9));
-            is("an early one, from " + month, monthsOf(x, 1, 2), span(month, 12));
-            is("a dwarf one, from " + month, monthsOf(x, 2, 2), span(month, 12));
+            is("a common one, from " + month, monthsOf(x, 0, state), span(month, common));
+            is("an early one, from " + month, monthsOf(x, 1, state), span(month, early));
+            is("a dwarf one, from " + month, monthsOf(x, 2, state), span(month, dwarf));
         }
+    }
+
+    @Sentence(under = "Terms", says = "By a FIRE it is BURNT from that MONTH on for 12 MONTHS, a common one for 9")
+    static void aFireLasts12MonthsOrNine() {
+        lastingIs(0, 2, 9, 12, 12);
     }
 
     @Sentence(under = "Terms", says = "by a GOAT EATEN likewise for 2, a dwarf one for 3")
     static void aGoatLasts2MonthsOrThree() {
-        for (int month = 0; month < 24; month++) {
-            GorseGold x = threeKinds();
-            for (int bush = 0; bush < 3; bush++) {
-                x.event(1, month, bush);
-            }
-            is("a common one, from " + month, monthsOf(x, 0, 3), span(month, 2));
-            is("an early one, from " + month, monthsOf(x, 1, 3), span(month, 2));
-            is("a dwarf one, from " + month, monthsOf(x, 2, 3), span(month, 3));
-        }
+        lastingIs(1, 3, 2, 2, 3);
     }
 
     @Sentence(under = "Terms", says = "by a FROST BLACK likewise for 1, an early one for 2, a dwarf one not at all.")
     static void aFrostLasts1MonthOr2OrNone() {
-        for (int month = 0; month < 24; month++) {
-            GorseGold x = threeKinds();
-            x.event(2, month, 0);
-            is("a common one, from " + month, monthsOf(x, 0, 4), span(month, 1));
-            is("an early one, from " + month, monthsOf(x, 1, 4), span(month, 2));
-            is("a dwarf one, from " + month, monthsOf(x, 2, 4), 0);
-            is("a dwarf one in BLOOM", monthsOf(x, 2, 1), Due.months(0, 2) | Due.months(12, 14));
-        }
+        lastingIs(2, 4, 1, 2, 0);
+        GorseGold x = Due.gold("da1", "", "r:0:0 r:1:0 r:13:0");
+        is("a dwarf one in BLOOM all the same", monthsOf(x, 0, 1), Due.months(0, 2) | Due.months(12, 14));
     }
 
     @Sentence(under = "Terms", says = "(By several as long as any of them makes it.)")
@@ -107,8 +98,8 @@ public final class MonthsBoundaryTest extends Boundaries {
         is("by several", markedMonths(x, 0, 2), Due.months(4, 7) | Due.months(10, 12));
     }
 
-    @Sentence(under = "Terms", says = "In a MONTH it is BURNT, if it is so, else EATEN, else BLACK, "
-        + "else in BLOOM in its SEASON, else GREEN.")
+    @Sentence(under = "Terms",
+        says = "In a MONTH it is BURNT, if it is so, else EATEN, else BLACK, else in BLOOM in its SEASON, else GREEN.")
     static void burntHidesEatenHidesBlackHidesBloom() {
         for (int set = 0; set < 8; set++) {
             GorseGold x = Due.gold("ca1;cg1", "");
@@ -218,8 +209,8 @@ public final class MonthsBoundaryTest extends Boundaries {
         is("behind MONTH 23", x.hill(23, 1), 42);
     }
 
-    @Sentence(under = "Terms", says = "for each LOOK of it, as told, at a BUSH that is there: as much more as that has "
-        + "SPARKS, if it SEEMS so, else 5 less")
+    @Sentence(under = "Terms",
+        says = "for each LOOK of it, as told, at a BUSH that is there: as much more as that has SPARKS, if it SEEMS so, else 5 less")
     static void looksCountAsToldByTheBushesThatAreThere() {
         is("at the last that is there", beliefBehind0("a2", "", 50), 51);
         is("at the first that is not", beliefBehind0("a3", "", 50), 48);
@@ -337,8 +328,8 @@ public final class MonthsBoundaryTest extends Boundaries {
         is("BELIEF by the LOOK at it", x.hill(0, 1), 48);
     }
 
-    @Sentence(under = "Terms", says = "LAST: the BUSH in BLOOM in most MONTHS, of like ones the least: which; "
-        + "in how many; NONE: there are none.")
+    @Sentence(under = "Terms",
+        says = "LAST: the BUSH in BLOOM in most MONTHS, of like ones the least: which; in how many; NONE: there are none.")
     static void lastIsTheLeastOfLikeOnes() {
         GorseGold x = Due.gold("da1;ea1;ca1;cg1;cb1", "");
         is("which", x.last(0), 2);
@@ -350,8 +341,8 @@ public final class MonthsBoundaryTest extends Boundaries {
         is("in how many", x.last(1), 8);
     }
 
-    @Sentence(under = "Terms", says = "LAST: the BUSH in BLOOM in most MONTHS, of like ones the least: which; "
-        + "in how many; NONE: there are none.")
+    @Sentence(under = "Terms",
+        says = "LAST: the BUSH in BLOOM in most MONTHS, of like ones the least: which; in how many; NONE: there are none.")
     static void lastOfBushesThatNeverBloomIsTheFirst() {
         GorseGold x = Due.gold("da1;da1", "");
         Due.events(x, "f:0:0 f:12:0 f:0:1 f:12:1");
@@ -364,8 +355,8 @@ public final class MonthsBoundaryTest extends Boundaries {
 
     // ---- Promise 12
 
-    @Sentence(under = "Promise 12: at", says = "What it is (what = 0), whether it SEEMS so (1: 1, 0), "
-        + "whether PAINTED (2: 1, 0).")
+    @Sentence(under = "Promise 12: at",
+        says = "What it is (what = 0), whether it SEEMS so (1: 1, 0), whether PAINTED (2: 1, 0).")
     static void atTellsTheFirstAndTheLastMonth() {
         GorseGold x = Due.gold("ca1;cg1", "");
         Due.events(x, "p:23:0 p:0:1");

@@ -51,8 +51,8 @@ public final class PlansBoundaryTest extends Boundaries {
         planIs("a frost in a MONTH that is not BARE", Due.gold("ca1;dg1", "", "r:6:9"), 0, 6, 0);
     }
 
-    @Sentence(under = "Terms", says = "by which fewest MONTHS are BARE, of like ones the least kind, "
-        + "then the least month")
+    @Sentence(under = "Terms",
+        says = "by which fewest MONTHS are BARE, of like ones the least kind, then the least month")
     static void plantIsTheLeastKindThenTheLeastMonth() {
         planIs("nothing is BARE: all are alike", Due.gold("ca1;cg1", "", ""), 0, 0, 0);
         planIs("no BUSHES: all common ones are alike", new GorseGold(), 0, 0, 12);
@@ -208,14 +208,15 @@ public final class PlansBoundaryTest extends Boundaries {
         saveIs("'" + bushes + "' with '" + events + "'", Due.gold(bushes, "", events), best[0], best[1], best[2]);
     }
 
-    @Sentence(under = "Terms", says = "SAVE: the fewest EVENTS (0 to 2) that had better not be, so that no MONTH is BARE")
+    @Sentence(under = "Terms",
+        says = "SAVE: the fewest EVENTS (0 to 2) that had better not be, so that no MONTH is BARE")
     static void saveIsNoneToTwoEvents() {
         saveIs("none is needed", Due.gold("ca1;cg1", "", "p:0:0 f:0:9"), 0, -1, -1);
         saveIs("one is needed", Due.gold("ca1;cg1", "", "p:0:0 g:1:0"), 1, 1, -1);
         saveIs("two are needed", Due.gold("ca1;cg1", "", "p:0:0 g:1:0 g:9:1"), 2, 1, 2);
         saveIs("three are needed", Due.gold("ca1;cg1", "", "p:0:0 g:1:0 g:9:1 g:13:0"), -1, -1, -1);
-        saveIs("all eight and none is enough", Due.gold("ca1", "", "g:0:0 g:2:0 g:4:0 g:6:0 g:8:0 g:10:0 g:12:0 g:14:0"),
-            -1, -1, -1);
+        saveIs("all eight are needed", Due.gold("ca1;cg1", "",
+            "r:0:0 r:2:0 r:4:0 r:6:0 r:8:0 r:10:0 r:12:0 r:14:0"), -1, -1, -1);
         saveIs("the seventh and the eighth", Due.gold("ca1;cg1", "", "p:0:0 p:0:0 p:0:0 p:0:0 p:0:0 p:0:0 g:1:0 g:9:1"),
             2, 6, 7);
         GorseGold x = Due.gold("ca1;cg1", "", "g:1:0");
@@ -235,7 +236,7 @@ public final class PlansBoundaryTest extends Boundaries {
         saveIsTheLeastRowOfTheFewest("ca1;cg1;cd1;cj1", "f:0:0 f:0:1 f:0:2 g:0:3 p:1:1 g:20:1 g:20:2 p:1:1");
     }
 
-    @Sentence(under = "Terms", says = "how many; the i-th; NONE. DEAL")
+    @Sentence(under = "Terms", says = "how many; the i-th; NONE.")
     static void saveIsNoneWhereThereAreNotSoMany() {
         saveIs("of none", Due.gold("ca1;cg1", "", ""), 0, GorseGold.NONE, GorseGold.NONE);
         saveIs("of one", Due.gold("ca1;cg1", "", "g:1:0"), 1, 0, GorseGold.NONE);
@@ -246,7 +247,8 @@ public final class PlansBoundaryTest extends Boundaries {
     static void saveIsNoneWhereNoTwoAreEnough() {
         saveIs("no BUSHES", new GorseGold(), GorseGold.NONE, GorseGold.NONE, GorseGold.NONE);
         saveIs("BARE without any EVENT", Due.gold("ca1", "", ""), GorseGold.NONE, GorseGold.NONE, GorseGold.NONE);
-        saveIs("BARE without any of them", Due.gold("ca1", "", "g:0:0"), GorseGold.NONE, GorseGold.NONE, GorseGold.NONE);
+        saveIs("BARE without any of them", Due.gold("ca1", "", "g:0:0"), GorseGold.NONE, GorseGold.NONE,
+            GorseGold.NONE);
     }
 
     @Sentence(under = "Promise 20: save", says = "BAD.")
@@ -281,8 +283,8 @@ public final class PlansBoundaryTest extends Boundaries {
         dealIs("'" + bushes + "' '" + looks + "' '" + events + "'", x, best[0], best[1], best[2]);
     }
 
-    @Sentence(under = "Terms", says = "DEAL: in which MONTH one had better buy, behind which at least sell, "
-        + "so that BELIEF there is most above that here")
+    @Sentence(under = "Terms",
+        says = "DEAL: in which MONTH one had better buy, behind which at least sell, so that BELIEF there is most above that here")
     static void dealSellsNotAheadOfWhereItBuys() {
         dealIs("it only falls", new GorseGold(), 0, 0, 0);
         dealIs("a rise, then a deeper fall", Due.gold("ca9;cg9", "b0;m1;n1;o1"), 0, 1, 9);

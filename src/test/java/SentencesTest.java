@@ -17,9 +17,10 @@ public final class SentencesTest {
 
     /** Words that name a boundary: refusals, limits, what is empty, full or first, and what wraps. */
     private static final Pattern BOUNDARY = Pattern.compile(
-        "\\b(BAD|NULL|NOT|FULL|INDEX|CAST|STORE|SIZE|NONE|LOST)\\b|\\b(at most|at least|up to|at first|at all|wrap|least"
-        + "|lowest|empty|ended|not ended|whole|whatever|perhaps|before any|below 0|above 60|left over|as bits)\\b"
-        + "|\\bas long as\\b|\\d+ (to|\\.\\.) \\d+|\\((no|No)ne\\b");
+        "\\b(BAD|NULL|NOT|FULL|INDEX|CAST|STORE|SIZE|NONE|LOST)\\b"
+        + "|\\b(at most|at least|up to|at first|at all|wrap|least|lowest|empty|ended|whole|whatever|perhaps|none)\\b"
+        + "|\\b(before any|below 0|above 60|left over|as bits|as long as)\\b"
+        + "|\\d+ (to|\\.\\.) \\d+");
 
     public static void main(String[] args) throws IOException, ClassNotFoundException {
         if (!Document.isThere()) {

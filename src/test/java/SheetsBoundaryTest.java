@@ -270,7 +270,8 @@ public final class SheetsBoundaryTest extends Boundaries {
 
     // ---- Promise 31
 
-    @Sentence(under = "Promise 31: lay", says = "Item i, treated as of a FORM, becomes v (the lowest bits that it has): 1.")
+    @Sentence(under = "Promise 31: lay",
+        says = "Item i, treated as of a FORM, becomes v (the lowest bits that it has): 1.")
     static void layKeepsTheLowestBits() {
         int[] bytes = {0, 1, -1, 127, -128, -127, -1, 0, -127, -128, 127, 0, -1, 0, -1, 0, 0, -1, 0, -1, 1, 0};
         int[] shorts = {0, 1, -1, 127, 128, 129, 255, 256, -127, -128, -129, -256, 32767, -32768, -1, 0, -32768, 32767,
@@ -288,7 +289,8 @@ public final class SheetsBoundaryTest extends Boundaries {
         }
     }
 
-    @Sentence(under = "Promise 31: lay", says = "Item i, treated as of a FORM, becomes v (the lowest bits that it has): 1.")
+    @Sentence(under = "Promise 31: lay",
+        says = "Item i, treated as of a FORM, becomes v (the lowest bits that it has): 1.")
     static void layOfTheFirstAndTheLastItemLeavesTheOthers() {
         GorseGold x = counted();
         is("lay(0, 2, 0, 1)", x.lay(0, 2, 0, 1), 1);
@@ -368,8 +370,8 @@ public final class SheetsBoundaryTest extends Boundaries {
 
     // ---- Promise 33
 
-    @Sentence(under = "Promise 33: copy", says = "n items of SHEET s, from i on, come to SHEET t (perhaps s, as they were), "
-        + "from j on: 1.")
+    @Sentence(under = "Promise 33: copy",
+        says = "n items of SHEET s, from i on, come to SHEET t (perhaps s, as they were), from j on: 1.")
     static void copyOfNoneAndOfAll() {
         GorseGold x = counted();
         is("all of the shorter one", x.copy(1, 0, 0, 2, 3), 1);
@@ -394,8 +396,8 @@ public final class SheetsBoundaryTest extends Boundaries {
         is("item 59", x.get(1, 0, 59), 8);
     }
 
-    @Sentence(under = "Promise 33: copy", says = "n items of SHEET s, from i on, come to SHEET t (perhaps s, as they were), "
-        + "from j on: 1.")
+    @Sentence(under = "Promise 33: copy",
+        says = "n items of SHEET s, from i on, come to SHEET t (perhaps s, as they were), from j on: 1.")
     static void copyToItselfTakesItemsAsTheyWere() {
         GorseGold x = counted();
         is("up by one", x.copy(0, 0, 0, 1, 4), 1);
@@ -462,8 +464,8 @@ public final class SheetsBoundaryTest extends Boundaries {
 
     // ---- Promise 34
 
-    @Sentence(under = "Promise 34: write", says = "BELIEF behind MONTHS 0 on comes to a SHEET from item 0 on, "
-        + "as many as there are items, 24 at most: how many.")
+    @Sentence(under = "Promise 34: write",
+        says = "BELIEF behind MONTHS 0 on comes to a SHEET from item 0 on, as many as there are items, 24 at most: how many.")
     static void writeIsAsManyAsThereAreItems24AtMost() {
         for (int n : new int[] {0, 1, 2, 23, 24, 25, 60}) {
             for (int form = 0; form < 3; form++) {
@@ -481,8 +483,8 @@ public final class SheetsBoundaryTest extends Boundaries {
         }
     }
 
-    @Sentence(under = "Promise 34: write", says = "BELIEF behind MONTHS 0 on comes to a SHEET from item 0 on, "
-        + "as many as there are items, 24 at most: how many.")
+    @Sentence(under = "Promise 34: write",
+        says = "BELIEF behind MONTHS 0 on comes to a SHEET from item 0 on, as many as there are items, 24 at most: how many.")
     static void writeTells0And100() {
         GorseGold x = Due.gold("ca9;cg9", "a0;b0");
         x.set(0, 100);

@@ -3,6 +3,9 @@ public final class SightsBoundaryTest extends Boundaries {
     private static final String[] HILLS = {"ca1;eg5;dl9", "dl1", "ca1;ca1;ca1;ca1;ca1;ca1;ca1;ca1;ca1;el1"};
     private static final String[] EVENTS = {"g:0:0 r:6:0 f:12:2 p:3:1", "f:0:0 f:0:0", "r:11:9 g:23:0 f:2:9 r:23:3"};
 
+    /** What may stand in place of a bush's month, and of its kind, in the order of their bits. */
+    private static final String[] SIGNS = {"abcdefghijkl", "ced"};
+
     public static void main(String[] args) {
         run(SightsBoundaryTest.class);
     }
@@ -47,9 +50,10 @@ public final class SightsBoundaryTest extends Boundaries {
         return s.toString();
     }
 
+    /** All of them come out so, so that any other in place of one would be seen. */
     private static GorseGold eightSeen() {
         GorseGold x = hill(HILLS[0], EVENTS[0]);
-        see(x, "0:0:3 6:1:4 12:2:2 23:9:4 0:9:0 5:5:1 1:0:3 13:2:2");
+        see(x, "0:0:3 6:1:4 12:2:2 23:0:0 22:1:0 5:0:1 1:0:3 13:2:2");
         return x;
     }
 
@@ -125,6 +129,7 @@ public final class SightsBoundaryTest extends Boundaries {
 
     @Sentence(under = "Promise 22: seen", says = "BAD; FULL.")
     static void seenIsFull() {
+        holds("all eight come out so", eightSeen().was(0, 0) != 0);
         refused("seen(0, 0, 0)", SightsBoundaryTest::eightSeen, x -> x.seen(0, 0, 0), GorseGold.FULL, 0);
         refused("seen(23, 9, 4)", SightsBoundaryTest::eightSeen, x -> x.seen(23, 9, 4), GorseGold.FULL, 0);
     }
@@ -139,6 +144,7 @@ public final class SightsBoundaryTest extends Boundaries {
     @Sentence(under = "Promise 23: forget", says = "All SEEN are forgotten: how many.")
     static void forgetOfNoneAndOfEight() {
         GorseGold x = eightSeen();
+        holds("all eight come out so", x.never() != 0);
         is("forget() of eight", x.forget(), 8);
         is("count(7)", x.count(7), 0);
         is("forget() of none", x.forget(), 0);
@@ -149,8 +155,8 @@ public final class SightsBoundaryTest extends Boundaries {
 
     // ---- NEVER
 
-    @Sentence(under = "Terms", says = "NEVER: EVENTS each of which, had it alone not been, makes all that was SEEN "
-        + "come out so, as bits.")
+    @Sentence(under = "Terms",
+        says = "NEVER: EVENTS each of which, had it alone not been, makes all that was SEEN come out so, as bits.")
     static void neverIsOfEventsLeftOutAlone() {
         GorseGold x = hill("ca1", "g:0:0 g:0:0");
         x.seen(0, 0, 3);
@@ -168,8 +174,8 @@ public final class SightsBoundaryTest extends Boundaries {
         is("where all is so as it is, those without effect", x.never(), 2);
     }
 
-    @Sentence(under = "Terms", says = "NEVER: EVENTS each of which, had it alone not been, makes all that was SEEN "
-        + "come out so, as bits.")
+    @Sentence(under = "Terms",
+        says = "NEVER: EVENTS each of which, had it alone not been, makes all that was SEEN come out so, as bits.")
     static void neverIsAsWithTheOthersAlone() {
         for (int h = 0; h < 3; h++) {
             String[] told = EVENTS[h].split(" ");
@@ -208,26 +214,30 @@ public final class SightsBoundaryTest extends Boundaries {
 
     @Sentence(under = "Terms", says = "BEGAN of a BUSH: months (0 to 11), in place of its own, likewise, as bits.")
     static void beganIsMonthsInPlaceOfItsOwn() {
+        wasIsAsWithOthersInPlace(0);
+    }
+
+    /** Of the first and the last bush of each hill, by what would be so with each other sign in place. */
+    private static void wasIsAsWithOthersInPlace(int what) {
         for (int h = 0; h < 3; h++) {
-            int many = Due.gold(HILLS[h], "").count(0);
-            for (int bush = 0; bush < many; bush += many - 1 == 0 ? 1 : many - 1) {
-                for (int begin = 0; begin < 12; begin++) {
-                    String other = withBush(HILLS[h], bush, 1, (char) ('a' + begin));
-                    beganIs(h, bush, truths(hill(other, EVENTS[h])));
+            for (int bush : new int[] {0, Due.gold(HILLS[h], "").count(0) - 1}) {
+                for (char sign : SIGNS[what].toCharArray()) {
+                    String other = withBush(HILLS[h], bush, 1 - what, sign);
+                    wasIs(h, bush, what, truths(hill(other, EVENTS[h])));
                 }
             }
         }
     }
 
-    private static void beganIs(int h, int bush, String sights) {
+    private static void wasIs(int h, int bush, int what, String sights) {
         int want = 0;
-        for (int begin = 0; begin < 12; begin++) {
-            String other = withBush(HILLS[h], bush, 1, (char) ('a' + begin));
-            want |= comesOut(hill(other, EVENTS[h]), sights) ? 1 << begin : 0;
+        for (int i = 0; i < SIGNS[what].length(); i++) {
+            String other = withBush(HILLS[h], bush, 1 - what, SIGNS[what].charAt(i));
+            want |= comesOut(hill(other, EVENTS[h]), sights) ? 1 << i : 0;
         }
         GorseGold x = hill(HILLS[h], EVENTS[h]);
         see(x, sights);
-        is("was(" + bush + ", 0) of " + HILLS[h] + " by " + sights, x.was(bush, 0), want);
+        is("was(" + bush + ", " + what + ") of " + HILLS[h] + " by " + sights, x.was(bush, what), want);
     }
 
     @Sentence(under = "Terms", says = "BEGAN of a BUSH: months (0 to 11), in place of its own, likewise, as bits.")
@@ -249,26 +259,7 @@ public final class SightsBoundaryTest extends Boundaries {
 
     @Sentence(under = "Terms", says = "KIND of a BUSH: 0 c, 1 e, 2 d, in place of its own, likewise, as bits.")
     static void kindIsKindsInPlaceOfItsOwn() {
-        for (int h = 0; h < 3; h++) {
-            int many = Due.gold(HILLS[h], "").count(0);
-            for (int bush = 0; bush < many; bush += many - 1 == 0 ? 1 : many - 1) {
-                for (int kind = 0; kind < 3; kind++) {
-                    String other = withBush(HILLS[h], bush, 0, "ced".charAt(kind));
-                    kindIs(h, bush, truths(hill(other, EVENTS[h])));
-                }
-            }
-        }
-    }
-
-    private static void kindIs(int h, int bush, String sights) {
-        int want = 0;
-        for (int kind = 0; kind < 3; kind++) {
-            String other = withBush(HILLS[h], bush, 0, "ced".charAt(kind));
-            want |= comesOut(hill(other, EVENTS[h]), sights) ? 1 << kind : 0;
-        }
-        GorseGold x = hill(HILLS[h], EVENTS[h]);
-        see(x, sights);
-        is("was(" + bush + ", 1) of " + HILLS[h] + " by " + sights, x.was(bush, 1), want);
+        wasIsAsWithOthersInPlace(1);
     }
 
     @Sentence(under = "Terms", says = "KIND of a BUSH: 0 c, 1 e, 2 d, in place of its own, likewise, as bits.")
@@ -339,8 +330,8 @@ public final class SightsBoundaryTest extends Boundaries {
 
     // ---- ASK
 
-    @Sentence(under = "Terms", says = "ASK of a BUSH: the MONTH in which the greatest number of those months of BEGAN "
-        + "by which it is alike is least, of like ones the least.")
+    @Sentence(under = "Terms",
+        says = "ASK of a BUSH: the MONTH in which the greatest number of those months of BEGAN by which it is alike is least, of like ones the least.")
     static void askIsTheLeastMonthOfLikeOnes() {
         GorseGold x = Due.gold("ca1;da1", "");
         is("6 and 6 in every MONTH", x.ask(0), 0);
@@ -359,8 +350,8 @@ public final class SightsBoundaryTest extends Boundaries {
         is("open in the last", x.ask(0), 23);
     }
 
-    @Sentence(under = "Terms", says = "ASK of a BUSH: the MONTH in which the greatest number of those months of BEGAN "
-        + "by which it is alike is least, of like ones the least.")
+    @Sentence(under = "Terms",
+        says = "ASK of a BUSH: the MONTH in which the greatest number of those months of BEGAN by which it is alike is least, of like ones the least.")
     static void askOfOneMonthOrNoneIsMonth0() {
         GorseGold x = Due.gold("ca1", "");
         see(x, "11:0:1 10:0:0");
@@ -371,8 +362,8 @@ public final class SightsBoundaryTest extends Boundaries {
         is("ask(0) of none", x.ask(0), 0);
     }
 
-    @Sentence(under = "Terms", says = "ASK of a BUSH: the MONTH in which the greatest number of those months of BEGAN "
-        + "by which it is alike is least, of like ones the least.")
+    @Sentence(under = "Terms",
+        says = "ASK of a BUSH: the MONTH in which the greatest number of those months of BEGAN by which it is alike is least, of like ones the least.")
     static void askIsAsByTheMonthsInPlaceOfItsOwn() {
         for (int h = 0; h < 3; h++) {
             int last = Due.gold(HILLS[h], "").count(0) - 1;

@@ -423,7 +423,8 @@ public final class TextsBoundaryTest extends Boundaries {
 
     // ---- Promise 6
 
-    @Sentence(under = "Promise 6: bush", says = "Its kind (what = 0: 0 c, 1 e, 2 d), the month (1), SPARKS (2) of a BUSH.")
+    @Sentence(under = "Promise 6: bush",
+        says = "Its kind (what = 0: 0 c, 1 e, 2 d), the month (1), SPARKS (2) of a BUSH.")
     static void bushTellsTheLeastAndTheGreatest() {
         GorseGold x = typed(0, "ca1;el9;dl1");
         int[][] want = {{0, 0, 1}, {1, 11, 9}, {2, 11, 1}};
