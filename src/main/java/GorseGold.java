@@ -371,7 +371,7 @@ public final class GorseGold {
         hill.grow(events, 0);
         long above = bareShares(c, month);
         if (above == 0) {
-            // 0 by 1: what happens to be the answer itself
+            // 0 by 1: above is asked for by 0, below by 1
             return what;
         }
         long below = 1L << 4 * events.size;
